@@ -986,6 +986,16 @@ public final class PromiseTest {
             late.addFlaw(row, row % 2);
         }
         dueNested("below the flaws", 20, late, 0);
+        late.clearFlaws();
+        int high = shape(late, 'n', false, "00 01 10 11 20 21 30 31 40 41");
+        late.addStyle();
+        late.addPart(1, high, 1);
+        for (int row = 4; row < 55; row += 5) {
+            late.addFlaw(row, 0);
+        }
+        dueNested("in the last five rows", 60, late, 1);
+        late.addFlaw(56, 0);
+        dueNestedThrow("nowhere", STATE, late, 1);
     }
 
     private static void promises29And30() {
@@ -1069,6 +1079,9 @@ public final class PromiseTest {
         due(31, "the stock", 9999, room.pieces(single, false));
         dueThrow(31, "the stock is full", STATE, () -> room.spread(1));
         room.clear();
+        room.nest(single, false);
+        dueThrow(31, "one piece is too much", STATE, () -> room.spread(1));
+        room.clear();
         room.nest(paired, true);
         due(31, "the other shape is not full", before - 3, room.spread(1));
         room.clear();
@@ -1084,6 +1097,19 @@ public final class PromiseTest {
         due(31, "plain and mirrored ones are limited apart", 9968, room.pieces(paired, true));
         dueThrow(31, "mirrored ones are limited, too", STATE, () -> room.spread(1));
         due(31, "plain ones", 249, room.pieces(paired, false));
+        room.clear();
+        for (int i = 0; i < 31; i++) {
+            room.nest(paired, true);
+        }
+        room.spread(1);
+        due(31, "9999 mirrored ones are not too much", 9999, room.pieces(paired, true));
+        room.clear();
+        room.nest(paired, true);
+        dueThrow(31, "one mirrored piece is too much", STATE, () -> room.spread(1));
+        room.clear();
+        room.fold(true);
+        room.nest(paired, false);
+        dueThrow(31, "on folded cloth, a pair has a mirrored piece", STATE, () -> room.spread(1));
     }
 
     private static void promise32() {
