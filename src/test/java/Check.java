@@ -6,6 +6,14 @@ final class Check {
         Object answer();
     }
 
+    interface CallWith {
+        Object answer(int argument);
+    }
+
+    interface CallOn {
+        Object answer(CuttingRoom room);
+    }
+
     private final String test;
     private int asked;
     private int wrong;
@@ -36,6 +44,13 @@ final class Check {
         }
         wrong++;
         System.out.println(test + ": " + what + " gave " + got + ", due is " + want.getSimpleName());
+    }
+
+    /** The same for a call with each of several arguments. */
+    void dueThrowEach(String what, int[] arguments, Class<? extends RuntimeException> want, CallWith call) {
+        for (int argument : arguments) {
+            dueThrow(what + " " + argument, want, () -> call.answer(argument));
+        }
     }
 
     /** Ends the test's program, with exit code 1 if an answer was wrong. */

@@ -109,20 +109,17 @@ public final class PromiseTest {
         CHECK.dueThrow("promise " + promise + ", " + what, want, call);
     }
 
-    /** Adds a shape with the cells told as pairs of digits, such as "00 10 11". */
     private static int shape(CuttingRoom room, char rule, boolean isPaired, String cells) {
-        int shape = room.addShape(rule, isPaired);
-        for (String cell : cells.split(" ")) {
-            room.addCell(shape, cell.charAt(0) - '0', cell.charAt(1) - '0');
-        }
-        return shape;
+        return Rooms.shape(room, rule, isPaired, cells);
     }
 
-    /** All rows and columns that the piece has, such as "00 10 11"; each cell is asked for. */
+    /** All rows and columns that the piece has, such as "0,0 1,0 1,1"; each cell of its square is asked for. */
     private static String cellsOfPiece(CuttingRoom room, int piece) {
         StringBuilder cells = new StringBuilder();
-        for (int row = 0; row < 60; row++) {
-            for (int column = 0; column < 12; column++) {
+        int top = room.rowOf(piece);
+        int left = room.columnOf(piece);
+        for (int row = top; row < Math.min(top + 5, 60); row++) {
+            for (int column = left; column < Math.min(left + 5, 12); column++) {
                 if (owner(room, row, column) == piece) {
                     cells.append(cells.length() > 0 ? " " : "").append(row).append(',').append(column);
                 }
@@ -1381,19 +1378,30 @@ public final class PromiseTest {
         due(41, "cleared", true, room.isSound());
     }
 
-    /** Behind the 512th call the answers are free, but the machine still must not throw. */
+    /** Behind the 512th call the answers are free, but the machine still must not throw, nor a call fail to end. */
     private static void longUse() {
         CuttingRoom room = new CuttingRoom();
         int shape = shape(room, 'q', true, "00 10 11");
         room.addStyle();
         room.addPart(0, shape, 2);
         for (int i = 0; i < 3000; i++) {
-            int piece = room.nest(shape, i % 2 == 0);
-            due(10, "the number", i, piece);
-            if (i >= 5) {
-                room.takeOff(i - 5);
-            }
+            boolean isMirrored = i % 2 == 0;
+            int oldest = i - 5;
+            endsAsDeclared(() -> room.nest(shape, isMirrored));
+            endsAsDeclared(() -> room.takeOff(oldest));
+            endsAsDeclared(() -> room.addCloth(9999));
+            endsAsDeclared(() -> room.spread(50));
+            endsAsDeclared(() -> room.make(0, 20));
         }
-        due(27, "the least length", room.nestedByTrying(0), room.nestedLength(0));
+        endsAsDeclared(() -> room.nestedLength(0));
+        endsAsDeclared(() -> room.nestedByTrying(0));
+        endsAsDeclared(() -> room.isSound());
+    }
+
+    private static void endsAsDeclared(Check.Call call) {
+        String outcome = Rooms.outcome(call);
+        boolean isOfTheMachine = outcome.startsWith("throws.")
+                && !outcome.matches("throws.(IllegalState|IllegalArgument|NoSuchElement)Exception");
+        CHECK.due("long use, " + outcome + " of the machine", false, isOfTheMachine);
     }
 }
