@@ -50,7 +50,7 @@ public final class RefusalTest {
         CHECK.end();
     }
 
-    /** Four shapes, one of them without cells, a marker with gaps, stock, styles and garments; the cloth has stripes. */
+    /** Four shapes, one of them without cells, a marker with gaps, stock, styles, garments; the cloth has stripes. */
     private static void fill(CuttingRoom room, boolean isFolded) {
         room.setCloth(9, false, 3);
         room.fold(isFolded);
