@@ -22,6 +22,7 @@ public final class LayingBoundaryTest {
         fortyNestedPieces();
         leastPlaces();
         leastTurns();
+        nestedAsPlainOrMirroredAsAsked();
         nowhere();
         theLastPlace();
         CHECK.end();
@@ -431,6 +432,26 @@ public final class LayingBoundaryTest {
         room.nest(half, false);
         CHECK.due("with a nap: the next row", 1, room.rowOf(0));
         CHECK.due("with a nap: not turned", 0, room.turnsOf(0));
+    }
+
+    /** The first place has room for a mirrored piece alone, whatever the turns. */
+    private static void nestedAsPlainOrMirroredAsAsked() {
+        for (int pairs = 0; pairs < 2; pairs++) {
+            CuttingRoom room = new CuttingRoom();
+            room.setCloth(2, false, 0);
+            int hook = Rooms.shape(room, 'q', pairs == 1, "00 10 20 21");
+            room.addFlaw(0, 0);
+            room.addFlaw(1, 0);
+            CHECK.due("a plain piece", 0, room.nest(hook, false));
+            CHECK.due("the row of a plain piece", 2, room.rowOf(0));
+            CHECK.due("not turned", 0, room.turnsOf(0));
+            room.clear();
+            if (pairs == 1) {
+                CHECK.due("a mirrored piece", 0, room.nest(hook, true));
+                CHECK.due("the row of a mirrored piece", 0, room.rowOf(0));
+                CHECK.due("not turned", 0, room.turnsOf(0));
+            }
+        }
     }
 
     /** Promise 12: "if it can be laid nowhere". */
